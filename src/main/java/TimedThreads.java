@@ -446,10 +446,14 @@ public final class TimedThreads {
                 case 5:
                     return left >= right;
                 case 6:
-                    return Integer.compareUnsigned(left, right) < 0;
+                    return isBelowUnsigned(left, right);
                 default:
-                    return Integer.compareUnsigned(left, right) >= 0;
+                    return !isBelowUnsigned(left, right);
             }
+        }
+
+        private static boolean isBelowUnsigned(int left, int right) {
+            return (left & 0xffffffffL) < (right & 0xffffffffL);
         }
 
         private Outcome load(int word, int cycle, SharedMemory memory) {
@@ -560,7 +564,7 @@ public final class TimedThreads {
                 case 2:
                     return left < right ? 1 : 0;
                 case 3:
-                    return Integer.compareUnsigned(left, right) < 0 ? 1 : 0;
+                    return isBelowUnsigned(left, right) ? 1 : 0;
                 case 4:
                     return left ^ right;
                 case 5:
