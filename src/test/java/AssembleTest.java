@@ -1,6 +1,5 @@
 /** Promises 4 (assemble) and 5 (fault), with THE TEXT and TO ASSEMBLE. */
 public final class AssembleTest {
-    private static final TimedThreads X = new TimedThreads(1);
     private static final Check CHECK = new Check();
 
     public static void main(String[] args) {
@@ -75,18 +74,19 @@ public final class AssembleTest {
     }
 
     private static void targets() {
-        CHECK.due("words", Check.assemble(X, "a: jal x0,b;beq x0,x0,a\nb:bne x1,x0,b;jal x1,a;c:jal x0,c;blt x0,x1,d;d:",
+        TimedThreads x = new TimedThreads(1);
+        CHECK.due("words", Check.assemble(x, "a: jal x0,b;beq x0,x0,a\nb:bne x1,x0,b;jal x1,a;c:jal x0,c;blt x0,x1,d;d:",
             2, 100), 6);
         int[] want = {0x0080006f, 0xfe000ee3, 0x00009063, 0xff5ff0ef, 0x0000006f, 0x00104263};
         for (int k = 0; k < want.length; k++) {
-            CHECK.due("target " + k, X.peek(2, 100 + k), want[k]);
+            CHECK.due("target " + k, x.peek(2, 100 + k), want[k]);
         }
         word("add: jal x0,add", 0x6f);
         word("x: jal x0,x", 0x6f);
         word("abcdefgh: jal x0,abcdefgh", 0x6f);
         word("jal x0,z\nz:", 0x0040006f);
-        CHECK.due("a label behind the store", Check.assemble(X, "jal x0,z;z:", 3, 127), 1);
-        CHECK.due("its distance", X.peek(3, 127), 0x0040006f);
+        CHECK.due("a label behind the store", Check.assemble(x, "jal x0,z;z:", 3, 127), 1);
+        CHECK.due("its distance", x.peek(3, 127), 0x0040006f);
     }
 
     private static void blanks() {
@@ -228,8 +228,9 @@ public final class AssembleTest {
     }
 
     private static void word(String text, int want) {
-        CHECK.due(text + ": fault", faultAt(text, 5), 0);
-        CHECK.due(text, X.peek(1, 5), want);
+        TimedThreads x = new TimedThreads(1);
+        CHECK.due(text + ": fault", Check.faultOf(x, text, 1, 5), 0);
+        CHECK.due(text, x.peek(1, 5), want);
     }
 
     private static void fault(String text, int want) {
@@ -237,6 +238,6 @@ public final class AssembleTest {
     }
 
     private static int faultAt(String text, int word) {
-        return Check.faultOf(X, text, 1, word);
+        return Check.faultOf(new TimedThreads(1), text, 1, word);
     }
 }

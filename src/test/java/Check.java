@@ -1,3 +1,4 @@
+import java.util.Set;
 import java.util.concurrent.Callable;
 
 /** What the tests share: counting wrong answers, typing a text, asking for exceptions. */
@@ -15,6 +16,18 @@ final class Check {
 
     void due(String call, boolean got, boolean want) {
         due(call, got ? 1 : 0, want ? 1 : 0);
+    }
+
+    void none(String what, Set<String> found) {
+        same(what, found, Set.of());
+    }
+
+    void same(String what, Set<String> found, Set<String> want) {
+        asked++;
+        if (!found.equals(want)) {
+            wrong++;
+            System.out.println(what + " " + found + ", due is " + want);
+        }
     }
 
     void refused(String call, Class<? extends Exception> want, Callable<?> body) {

@@ -1,9 +1,11 @@
-/** Promise 1: a new object. */
+/** Promise 1: a new object (its wheel is tested in CallEdgesTest). */
 public final class NewObjectTest {
     public static void main(String[] args) {
         Check check = new Check();
         allIsZero(check, new TimedThreads(3));
-        wheelIsBounded(check);
+        for (int thread = 0; thread < 4; thread++) {
+            threadIsZero(check, new TimedThreads(3), thread);
+        }
         objectsAreApart(check);
         check.end();
     }
@@ -12,18 +14,6 @@ public final class NewObjectTest {
         check.due("now()", x.now(), 0);
         check.due("fault(0)", x.fault(0), 0);
         check.due("fault(1)", x.fault(1), 0);
-        for (int thread = 0; thread < 4; thread++) {
-            for (int word = 0; word < 128; word++) {
-                check.due("peek", x.peek(thread, word), 0);
-            }
-            for (int k = 0; k < 16; k++) {
-                check.due("register", x.register(thread, k), 0);
-                check.due("trace", x.trace(thread, k, 0), -1);
-            }
-            for (int what = 0; what < 8; what++) {
-                check.due("state", x.state(thread, what), 0);
-            }
-        }
         for (int word = 0; word < 64; word++) {
             check.due("shared", x.shared(word), 0);
         }
@@ -31,19 +21,16 @@ public final class NewObjectTest {
         check.due("clear()", x.clear(), 0);
     }
 
-    /** The wheel shows in when a shared load of thread 1, done in cycle 5, retires. */
-    private static void wheelIsBounded(Check check) {
-        int[] wheels = {Integer.MIN_VALUE, -1, 0, 1, 2, 3, 4, 5, 6, 7, 8, 9, Integer.MAX_VALUE};
-        for (int wheel : wheels) {
-            int w = wheel < 1 ? 1 : wheel > 8 ? 8 : wheel;
-            int b = 5;
-            while (b % (4 * w) != w) {
-                b++;
-            }
-            TimedThreads x = Check.started(wheel, 1, "lui x1,1;lw x2,0(x1)");
-            x.part(1, 0, 1);
-            check.due("run(8)", x.run(8), 2);
-            check.due("wheel " + wheel, x.trace(1, 0, 2), b + w);
+    private static void threadIsZero(Check check, TimedThreads x, int thread) {
+        for (int word = 0; word < 128; word++) {
+            check.due("peek", x.peek(thread, word), 0);
+        }
+        for (int k = 0; k < 16; k++) {
+            check.due("register", x.register(thread, k), 0);
+            check.due("trace", x.trace(thread, k, 0), -1);
+        }
+        for (int what = 0; what < 8; what++) {
+            check.due("state", x.state(thread, what), 0);
         }
     }
 

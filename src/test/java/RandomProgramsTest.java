@@ -8,9 +8,11 @@ import java.util.Random;
  */
 public final class RandomProgramsTest {
     private static final Check CHECK = new Check();
+    // So many words of a program that its pokes and the questions behind it stay within an object's 512 calls.
+    private static final int WORDS = 40;
 
     public static void main(String[] args) {
-        for (int seed = 0; seed < 1500; seed++) {
+        for (int seed = 0; seed < 6000; seed++) {
             oneObject(new Random(seed), seed);
         }
         CHECK.end();
@@ -21,7 +23,7 @@ public final class RandomProgramsTest {
         TimedThreads x = new TimedThreads(wheel);
         Model model = new Model(wheel);
         for (int thread = 0; thread < 4; thread++) {
-            for (int word = 0; word < 128; word++) {
+            for (int word = 0; word < WORDS; word++) {
                 int value = randomWord(random);
                 x.poke(thread, word, value);
                 model.poke(thread, word, value);
@@ -38,7 +40,7 @@ public final class RandomProgramsTest {
                     model.high[thread] = high;
                     break;
                 case 1:
-                    int address = random.nextInt(20) == 0 ? random.nextInt(600) - 20 : 4 * random.nextInt(128);
+                    int address = random.nextInt(20) == 0 ? random.nextInt(600) - 20 : 4 * random.nextInt(WORDS);
                     x.start(thread, address);
                     model.start(thread, address);
                     break;
@@ -48,7 +50,11 @@ public final class RandomProgramsTest {
                     break;
             }
         }
-        compare(x, model, seed);
+        CHECK.due("now", x.now(), model.cycle);
+        compareThread(x, model, seed % 4, "seed " + seed + ", thread " + seed % 4);
+        for (int word = 0; word < 64; word++) {
+            CHECK.due("seed " + seed + " shared " + word, x.shared(word), model.word(model.shared, 4 * word));
+        }
     }
 
     private static int randomWord(Random random) {
@@ -84,32 +90,25 @@ public final class RandomProgramsTest {
         return random.nextInt(300) == 0 ? 115 : op | rd << 7 | f << 12 | rs << 15 | rt << 20 | g << 25;
     }
 
-    private static void compare(TimedThreads x, Model model, int seed) {
-        CHECK.due("now", x.now(), model.cycle);
-        for (int thread = 0; thread < 4; thread++) {
-            String where = "seed " + seed + ", thread " + thread;
-            for (int k = 0; k < 16; k++) {
-                CHECK.due(where + " register " + k, x.register(thread, k), model.registers[thread][k]);
-            }
-            for (int word = 0; word < 128; word++) {
-                CHECK.due(where + " peek " + word, x.peek(thread, word), model.peek(thread, word));
-            }
-            int[] states = {model.status[thread], model.address[thread], model.done.get(thread).size(),
-                model.ready[thread], model.timers[thread][0], model.timers[thread][1], model.timers[thread][2],
-                model.timers[thread][3]};
-            for (int what = 0; what < 8; what++) {
-                CHECK.due(where + " state " + what, x.state(thread, what), states[what]);
-            }
-            List<int[]> done = model.done.get(thread);
-            for (int k = 0; k < 16; k++) {
-                for (int what = 0; what < 3; what++) {
-                    int want = k < done.size() ? done.get(done.size() - 1 - k)[what] : -1;
-                    CHECK.due(where + " trace " + k, x.trace(thread, k, what), want);
-                }
-            }
+    private static void compareThread(TimedThreads x, Model model, int thread, String where) {
+        for (int k = 0; k < 16; k++) {
+            CHECK.due(where + " register " + k, x.register(thread, k), model.registers[thread][k]);
         }
-        for (int word = 0; word < 64; word++) {
-            CHECK.due("seed " + seed + " shared " + word, x.shared(word), model.word(model.shared, 4 * word));
+        for (int word = 0; word < 128; word++) {
+            CHECK.due(where + " peek " + word, x.peek(thread, word), model.peek(thread, word));
+        }
+        int[] timers = model.timers[thread];
+        List<int[]> done = model.done.get(thread);
+        int[] states = {model.status[thread], model.address[thread], done.size(), model.ready[thread], timers[0], timers[1],
+            timers[2], timers[3]};
+        for (int what = 0; what < 8; what++) {
+            CHECK.due(where + " state " + what, x.state(thread, what), states[what]);
+        }
+        for (int k = 0; k < 16; k++) {
+            for (int what = 0; what < 3; what++) {
+                int want = k < done.size() ? done.get(done.size() - 1 - k)[what] : -1;
+                CHECK.due(where + " trace " + k, x.trace(thread, k, what), want);
+            }
         }
     }
 
