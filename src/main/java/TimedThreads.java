@@ -69,7 +69,7 @@ public final class TimedThreads {
             threads[k] = new TimedThread(k);
         }
         text = new Text();
-        assembler = new Assembler();
+        assembler = new Assembler(text);
     }
 
     public int type(long characters, int n) throws IllegalArgumentException, IllegalStateException {
@@ -93,7 +93,7 @@ public final class TimedThreads {
         if (!isStoreWord(thread, word)) {
             throw new NoSuchElementException();
         }
-        assembler.read(text, word);
+        assembler.read(word);
         if (assembler.faultKind != NO_FAULT) {
             throw new IllegalArgumentException();
         }
@@ -726,23 +726,24 @@ public final class TimedThreads {
 
         private final char[] kinds = new char[MOST_CHARACTERS + 1];
         private final long[] values = new long[MOST_CHARACTERS + 1];
+        private final Text text;
         private int count;
-        private char[] characters;
-        private int length;
         private int at;
+
+        Tokens(Text text) {
+            this.text = text;
+        }
 
         /** A word of up to eight letters as one number: words with the same number are the same. */
         static long withLetter(long key, char letter) {
             return (key << 5) | (letter - 'a' + 1);
         }
 
-        void split(Text text) {
-            characters = text.characters;
-            length = text.length;
+        void split() {
             count = 0;
             at = 0;
-            for (int guard = 0; guard < MOST_CHARACTERS && at < length; guard++) {
-                char c = characters[at];
+            for (int guard = 0; guard < MOST_CHARACTERS && at < text.length; guard++) {
+                char c = text.characters[at];
                 if (isLetter(c)) {
                     takeLetters();
                 } else if (isDigit(c) || c == '-') {
@@ -780,12 +781,12 @@ public final class TimedThreads {
         private void takeLetters() {
             int first = at;
             long key = 0;
-            while (at < length && isLetter(characters[at])) {
-                key = withLetter(key, characters[at]);
+            while (at < text.length && isLetter(text.characters[at])) {
+                key = withLetter(key, text.characters[at]);
                 at++;
             }
-            boolean isX = at - first == 1 && characters[first] == 'x';
-            if (isX && at < length && isDigit(characters[at])) {
+            boolean isX = at - first == 1 && text.characters[first] == 'x';
+            if (isX && at < text.length && isDigit(text.characters[at])) {
                 takeRegister();
             } else {
                 add(at - first > MOST_LETTERS ? WRONG : LETTERS, key);
@@ -810,8 +811,8 @@ public final class TimedThreads {
         private long takeDigits() {
             int first = at;
             long value = 0;
-            while (at < length && isDigit(characters[at])) {
-                value = at - first < MOST_DIGITS ? value * 10 + (characters[at] - '0') : TOO_LARGE;
+            while (at < text.length && isDigit(text.characters[at])) {
+                value = at - first < MOST_DIGITS ? value * 10 + (text.characters[at] - '0') : TOO_LARGE;
                 at++;
             }
             return value;
@@ -869,7 +870,7 @@ public final class TimedThreads {
         private final long[] targets = new long[STORE_WORDS];
         private final int[] lines = new int[STORE_WORDS];
         private final Labels labels = new Labels();
-        private final Tokens tokens = new Tokens();
+        private final Tokens tokens;
         private int at;
         // What the line at hand has; a label or target of 0 is none.
         private long label;
@@ -879,8 +880,12 @@ public final class TimedThreads {
         private boolean malformed;
         private boolean misfit;
 
-        void read(Text text, int firstWord) {
-            tokens.split(text);
+        Assembler(Text text) {
+            tokens = new Tokens(text);
+        }
+
+        void read(int firstWord) {
+            tokens.split();
             at = 0;
             count = 0;
             labels.count = 0;

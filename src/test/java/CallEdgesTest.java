@@ -172,7 +172,21 @@ public final class CallEdgesTest {
         x.assemble(0, 0);
         CHECK.due("a full text again", x.peek(0, 0), 345);
         CHECK.due("one character", cleared("a"), 1);
+        CHECK.due("what was typed before is not read on", leftover("x:jal x0,x", "5"), 111);
+        CHECK.due("nor are its digits", leftover("word 12", "34"), 12);
+        CHECK.due("nor are its letters", leftover("halt", "er"), 115);
+        CHECK.due("nor is its line", leftover("word 7", ";nop"), 7);
         CHECK.same("clear() changes", Twin.changes(Twin::busy, TimedThreads::clear), Set.of("clear()"));
+    }
+
+    /** The word of a text that is typed over a longer one. */
+    private static int leftover(String text, String rest) {
+        TimedThreads x = new TimedThreads(1);
+        Check.type(x, text + rest);
+        x.clear();
+        Check.type(x, text);
+        x.assemble(2, 0);
+        return x.peek(2, 0);
     }
 
     private static int cleared(String text) {
@@ -339,23 +353,21 @@ public final class CallEdgesTest {
                     CHECK.due("poke", x.poke(t, word, value), true);
                     CHECK.due("peek", x.peek(t, word), value);
                 }
-                CHECK.same("poke changes", Twin.changes(TimedThreadsOfSevens::make, x -> x.poke(t, word, 8)),
+                CHECK.same("poke changes", Twin.changes(CallEdgesTest::sevens, x -> x.poke(t, word, 8)),
                     Set.of("peek(" + t + ", " + word + ")"));
             }
         }
     }
 
-    /** Objects whose ends of stores hold a 7, so that a call that goes astray shows. */
-    private static final class TimedThreadsOfSevens {
-        static TimedThreads make() {
-            TimedThreads x = new TimedThreads(1);
-            for (int thread = 0; thread < 4; thread++) {
-                for (int word : new int[] {0, 1, 126, 127}) {
-                    x.poke(thread, word, 7);
-                }
+    /** An object whose ends of stores hold a 7, so that a call that goes astray shows. */
+    private static TimedThreads sevens() {
+        TimedThreads x = new TimedThreads(1);
+        for (int thread = 0; thread < 4; thread++) {
+            for (int word : new int[] {0, 1, 126, 127}) {
+                x.poke(thread, word, 7);
             }
-            return x;
         }
+        return x;
     }
 
     /** Promise 6: "0 when there is none." Promise 7: "False when there is none such." */
@@ -373,11 +385,11 @@ public final class CallEdgesTest {
     }
 
     private static void noneSuch(int thread, int word) {
-        TimedThreads x = TimedThreadsOfSevens.make();
+        TimedThreads x = sevens();
         CHECK.due("peek(" + thread + ", " + word + ")", x.peek(thread, word), 0);
         CHECK.due("poke(" + thread + ", " + word + ", 9)", x.poke(thread, word, 9), false);
         CHECK.due("peek then", x.peek(thread, word), 0);
-        leavesAll("poke(" + thread + ", " + word + ", 9)", TimedThreadsOfSevens::make, y -> y.poke(thread, word, 9));
+        leavesAll("poke(" + thread + ", " + word + ", 9)", CallEdgesTest::sevens, y -> y.poke(thread, word, 9));
     }
 
     /** Promise 8: "A word of the shared memory. 0 when there is none." */

@@ -53,6 +53,7 @@ public final class TextEdgesTest {
         fault(" ".repeat(400), 0);
         fault(" ".repeat(396) + "halt", 0);
         CHECK.due("a text of 400", wordOf(" ".repeat(396) + "halt"), 115);
+        CHECK.due("a label that ends it", wordOf(" ".repeat(390) + "x:jal x0,x"), 111);
         CHECK.due("a word that ends it", wordOf(" ".repeat(385) + "word 2147483647"), Integer.MAX_VALUE);
         CHECK.due("80 words", countOf("halt;".repeat(80)), 80);
         CHECK.due("100 lines", countOf(" ;;\n".repeat(99) + "halt"), 1);
