@@ -1,6 +1,9 @@
 import java.util.Set;
 
-/** The edges in 'Terms' that TIME stands on, a test for each such sentence (it stands above the test). */
+/**
+ * The document's first line, and the edges in 'Terms' that TIME stands on: a test for each such sentence (it stands above
+ * the test).
+ */
 public final class TimeEdgesTest {
     private static final Check CHECK = new Check();
     private static final int MIN = Integer.MIN_VALUE;
@@ -21,6 +24,7 @@ public final class TimeEdgesTest {
         deadFaultWhileItWaits();
         cycleIsTheCycle();
         haltRetires();
+        othersDoNotMatter();
         CHECK.end();
     }
 
@@ -264,5 +268,48 @@ public final class TimeEdgesTest {
         CHECK.due("no more", x.run(400), 0);
         CHECK.due("nothing behind it", x.register(0, 1), 0);
         CHECK.due("did", x.state(0, 2), 1);
+    }
+
+    /**
+     * "what a thread does, and in which cycle, does not depend on the others, as long as their parts do not overlap": its
+     * part here ends where theirs begin, or begins where theirs end.
+     */
+    private static void othersDoNotMatter() {
+        String[] others = {"lui x1,1;lw x2,%1$d(x1);sb x2,%1$d(x1);cycle x3;sw x3,%1$d(x1);jal x4,-16",
+            "lui x1,1;sw x1,64(x1)", "lui x1,1;sb x1,123(x1)", "dead 0,x0,30;jal x0,-4", "cycle x1;halt", "word 0"};
+        for (int wheel = 1; wheel <= 8; wheel++) {
+            for (int thread = 0; thread < 4; thread++) {
+                TimedThreads x = alone(wheel, thread);
+                x.run(397);
+                CHECK.due("it goes on", x.state(thread, 0), 1);
+                CHECK.due("and came round a few times: " + x.register(thread, 2), x.register(thread, 2) > 3, true);
+                for (String text : others) {
+                    othersDo(wheel, thread, text);
+                }
+            }
+        }
+    }
+
+    private static void othersDo(int wheel, int thread, String text) {
+        Set<String> changed = Twin.changes(() -> alone(wheel, thread), x -> {
+            for (int k = 1; k < 4; k++) {
+                int other = (thread + k) % 4;
+                Check.assemble(x, String.format(text, k == 1 ? 124 : 60), other, 0);
+                x.part(other, k == 1 ? 31 : 0, k == 1 ? 64 : 16);
+                x.start(other, 0);
+            }
+        }, x -> x.run(397));
+        CHECK.due("the others do something", changed.isEmpty(), false);
+        String its = "(peek|register|state|trace)\\(" + thread + ",.*|shared\\((1[6-9]|2[0-9]|30)\\)";
+        changed.removeIf(question -> !question.matches(its));
+        CHECK.none("thread " + thread + ", wheel " + wheel + ", among \"" + text + "\":", changed);
+    }
+
+    /** A thread that goes on in words 16 and 30 of its part, words 16 .. 30, in its store and by a timer. */
+    private static TimedThreads alone(int wheel, int thread) {
+        TimedThreads x = Check.started(wheel, thread, "lui x1,1;addi x2,x2,1;sw x2,64(x1);lbu x3,123(x1);dead 0,x0,37;"
+            + "cycle x4;sb x4,123(x1);sw x4,256(x0);jalr x5,4(x0)");
+        x.part(thread, 16, 31);
+        return x;
     }
 }

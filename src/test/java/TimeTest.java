@@ -12,7 +12,6 @@ public final class TimeTest {
         running();
         states();
         traces();
-        apart();
         CHECK.end();
     }
 
@@ -244,33 +243,6 @@ public final class TimeTest {
             {2, Integer.MIN_VALUE, 0}, {2, Integer.MAX_VALUE, 1}};
         for (int[] call : none) {
             CHECK.due("trace of none", x.trace(call[0], call[1], call[2]), -1);
-        }
-    }
-
-    /** What a thread does, and when, does not depend on the others when their parts do not overlap. */
-    private static void apart() {
-        String text = "lui x1,1;addi x2,x2,1;sw x2,64(x1);lw x3,64(x1);dead 0,x0,37;cycle x4;blt x2,x5,-20;jal x0,-24";
-        TimedThreads alone = Check.started(5, 1, text);
-        alone.part(1, 16, 17);
-        TimedThreads among = Check.started(5, 1, text);
-        among.part(1, 16, 17);
-        for (int thread = 0; thread < 4; thread++) {
-            if (thread != 1) {
-                Check.assemble(among, "lui x1,1;sw x1,0(x1);lb x2,1(x1);jal x0,-8", thread, 0);
-                among.part(thread, 0, 16);
-                among.start(thread, 0);
-            }
-        }
-        for (int step = 0; step < 10; step++) {
-            alone.run(97);
-            among.run(97);
-            for (int what = 0; what < 8; what++) {
-                CHECK.due("state " + what, among.state(1, what), alone.state(1, what));
-            }
-            for (int k = 0; k < 16; k++) {
-                CHECK.due("register", among.register(1, k), alone.register(1, k));
-                CHECK.due("trace", among.trace(1, k, 2), alone.trace(1, k, 2));
-            }
         }
     }
 }
