@@ -276,11 +276,12 @@ public final class TimeEdgesTest {
      */
     private static void othersDoNotMatter() {
         String[] others = {"lui x1,1;lw x2,%1$d(x1);sb x2,%1$d(x1);cycle x3;sw x3,%1$d(x1);jal x4,-16",
-            "lui x1,1;sw x1,64(x1)", "lui x1,1;sb x1,123(x1)", "dead 0,x0,30;jal x0,-4", "cycle x1;halt", "word 0"};
+            "lui x1,1;sw x1,64(x1);jal x0,-4", "lui x1,1;addi x2,x0,-1;sb x2,123(x1);jal x0,-4", "dead 0,x0,30;jal x0,-4",
+            "cycle x1;halt", "word 0"};
         for (int wheel = 1; wheel <= 8; wheel++) {
             for (int thread = 0; thread < 4; thread++) {
                 TimedThreads x = alone(wheel, thread);
-                x.run(397);
+                x.run(797);
                 CHECK.due("it goes on", x.state(thread, 0), 1);
                 CHECK.due("and came round a few times: " + x.register(thread, 2), x.register(thread, 2) > 3, true);
                 for (String text : others) {
@@ -298,17 +299,17 @@ public final class TimeEdgesTest {
                 x.part(other, k == 1 ? 31 : 0, k == 1 ? 64 : 16);
                 x.start(other, 0);
             }
-        }, x -> x.run(397));
+        }, x -> x.run(797));
         CHECK.due("the others do something", changed.isEmpty(), false);
         String its = "(peek|register|state|trace)\\(" + thread + ",.*|shared\\((1[6-9]|2[0-9]|30)\\)";
         changed.removeIf(question -> !question.matches(its));
         CHECK.none("thread " + thread + ", wheel " + wheel + ", among \"" + text + "\":", changed);
     }
 
-    /** A thread that goes on in words 16 and 30 of its part, words 16 .. 30, in its store and by a timer. */
+    /** A thread that goes on in its store, by a timer and in the ends of its part; x6 sums up what it finds there. */
     private static TimedThreads alone(int wheel, int thread) {
-        TimedThreads x = Check.started(wheel, thread, "lui x1,1;addi x2,x2,1;sw x2,64(x1);lbu x3,123(x1);dead 0,x0,37;"
-            + "cycle x4;sb x4,123(x1);sw x4,256(x0);jalr x5,4(x0)");
+        TimedThreads x = Check.started(wheel, thread, "lui x1,1;addi x2,x2,1;lw x3,64(x1);add x6,x6,x3;sw x2,64(x1);"
+            + "lbu x3,123(x1);add x6,x6,x3;dead 0,x0,37;cycle x4;sb x4,123(x1);sw x4,256(x0);jalr x5,4(x0)");
         x.part(thread, 16, 31);
         return x;
     }
